@@ -27,28 +27,12 @@ public final class ActsTest {
         Due.end();
     }
 
-    /** A book gets the lines told, with these numbers. */
-    private static void fill(FlightBooks x, int book, int... values) {
-        x.keep(book, values.length);
-        for (int line = 0; line < values.length; line++) {
-            x.write(book, line, values[line]);
-        }
-    }
-
-    private static void load(FlightBooks x, int line, int eighths) {
-        int step = eighths < 0 ? -16000 : 16000;
-        x.write(Due.LOADS, line, eighths % 16000);
-        for (int i = 0; i < eighths / step; i++) {
-            x.change(Due.LOADS, line, 0, step);
-        }
-    }
-
     // ---- copy
 
     private static void promise9Copy() {
         FlightBooks x = new FlightBooks(1);
-        fill(x, Due.SIGNS, 1, 2, 3);
-        fill(x, Due.LEVELS, 7, 7, 7, 7, 7);
+        Due.fill(x, Due.SIGNS, 1, 2, 3);
+        Due.fill(x, Due.LEVELS, 7, 7, 7, 7, 7);
         Due.is("9: copy", x.copy(Due.SIGNS, Due.LEVELS), 3);
         Due.book("9: to", x, Due.LEVELS, 1, 2, 3, 7, 7);
         Due.book("9: from", x, Due.SIGNS, 1, 2, 3);
@@ -99,8 +83,8 @@ public final class ActsTest {
         copied(Due.GATES, 1, Due.LOADS, 1);
         copied(Due.TOLLS, -128, Due.SIGNS, 65408);
         FlightBooks x = Due.withBooks(1, 2);
-        load(x, 0, 2000000);
-        load(x, 1, -2000000);
+        Due.load(x, 0, 2000000);
+        Due.load(x, 1, -2000000);
         Due.is("9: high loads", x.copy(Due.LOADS, Due.LEVELS), 2);
         Due.book("9: high loads", x, Due.LEVELS, (short) 2000000, (short) -2000000);
     }
@@ -113,7 +97,7 @@ public final class ActsTest {
             x.keep(to, 2);
             Due.fault("9: from is MISSING", x, 1, x.copy(from, to), -100000 - from);
             x.lose(to);
-            fill(x, from, 1, 1, 1);
+            Due.fill(x, from, 1, 1, 1);
             Due.fault("9: to is MISSING", x, 2, x.copy(from, to), -100000 - to);
             x.keep(to, 0);
             Due.fault("9: to has no line", x, 3, x.copy(from, to), -200000 - to);
@@ -128,14 +112,14 @@ public final class ActsTest {
 
     private static void promise10Sluice() {
         FlightBooks x = new FlightBooks(3);
-        fill(x, Due.LEVELS, 100, 10, 1, 55);
+        Due.fill(x, Due.LEVELS, 100, 10, 1, 55);
         Due.is("10: the first chamber", x.sluice(0, 30), 70);
         Due.book("10: the first chamber", x, Due.LEVELS, 70, 40, 1, 55);
         Due.is("10: below 0", x.sluice(1, -5), 45);
         Due.book("10: below 0", x, Due.LEVELS, 70, 45, -4, 55);
         Due.is("10: the last chamber", x.sluice(2, 6), -10);
         Due.book("10: the last chamber", x, Due.LEVELS, 70, 45, -10, 55);
-        fill(x, Due.LEVELS, -32768, 32767, 0);
+        Due.fill(x, Due.LEVELS, -32768, 32767, 0);
         Due.is("10: cut", x.sluice(0, 1), 32767);
         Due.book("10: cut", x, Due.LEVELS, 32767, -32768, 0);
         Due.is("10: as many lines as are enough", x.sluice(1, 0), -32768);
@@ -164,8 +148,8 @@ public final class ActsTest {
 
     private static void promise11Open() {
         FlightBooks x = new FlightBooks(3);
-        fill(x, Due.LEVELS, 4, 4, 0, 9);
-        fill(x, Due.GATES, 0, 0, 0, 0);
+        Due.fill(x, Due.LEVELS, 4, 4, 0, 9);
+        Due.fill(x, Due.GATES, 0, 0, 0, 0);
         Due.is("11: alike", x.open(0), 0);
         Due.is("11: unlike", x.open(1), -2);
         Due.is("11: the last chamber, alike to 0", x.open(2), 0);
@@ -190,7 +174,7 @@ public final class ActsTest {
         x.keep(Due.LEVELS, 1);
         Due.fault("11: no line c + 1", x, 2, x.open(0), -200001);
         Due.fault("11: no line c, last chamber", x, 3, x.open(1), -200001);
-        fill(x, Due.LEVELS, 1, 2);
+        Due.fill(x, Due.LEVELS, 1, 2);
         Due.is("11: unlike, ahead of GATES", x.open(0), -2);
         Due.is("11: unlike, last chamber", x.open(1), -2);
         x.keep(Due.LEVELS, 2);
@@ -208,13 +192,13 @@ public final class ActsTest {
     private static void promise12Shut() {
         FlightBooks x = new FlightBooks(3);
         Due.fault("12: GATES are MISSING", x, 0, x.shut(0), -100003);
-        fill(x, Due.GATES, 1, 0);
+        Due.fill(x, Due.GATES, 1, 0);
         Due.fault("12: no line c", x, 1, x.shut(2), -200003);
         Due.book("12: nothing is done", x, Due.GATES, 1, 0);
         Due.is("12: it was open", x.shut(0), 1);
         Due.is("12: it is shut", x.shut(0), 0);
         Due.is("12: it was shut", x.shut(1), 0);
-        fill(x, Due.GATES, 1, 1, 1, 1);
+        Due.fill(x, Due.GATES, 1, 1, 1, 1);
         Due.is("12: the last chamber", x.shut(2), 1);
         Due.book("12: one gate alone", x, Due.GATES, 1, 1, 0, 1);
     }
@@ -281,7 +265,7 @@ public final class ActsTest {
         Due.fault("13: SIGNS are MISSING", x, 0, x.enter(9, 8), -100000);
         x.keep(Due.SIGNS, 0);
         Due.fault("13: SIGNS line 0", x, 1, x.enter(9, 8), -200000);
-        fill(x, Due.SIGNS, 3);
+        Due.fill(x, Due.SIGNS, 3);
         Due.is("13: there is one, ahead of LEVELS", x.enter(9, 8), -2);
         x.keep(Due.SIGNS, 1);
         Due.fault("13: LEVELS are MISSING", x, 2, x.enter(9, 8), -100001);
@@ -289,7 +273,7 @@ public final class ActsTest {
         Due.fault("13: LEVELS line 0", x, 3, x.enter(9, 8), -200001);
         x.keep(Due.LEVELS, 1);
         Due.is("13: too high, ahead of LOADS", x.enter(9, 8), -3);
-        fill(x, Due.LEVELS, 1);
+        Due.fill(x, Due.LEVELS, 1);
         x.keep(Due.TOLLS, 1);
         Due.fault("13: LOADS are MISSING", x, 4, x.enter(9, 8), -100002);
         x.keep(Due.LOADS, 0);
@@ -341,11 +325,11 @@ public final class ActsTest {
         Due.is("14: not OUT", x.look(1), 0);
         Due.is("14: no FAULT", x.look(3), 0);
         x = bargeIn(0);
-        load(x, 0, 2000000);
+        Due.load(x, 0, 2000000);
         Due.is("14: the highest load", x.pass(0), 2000000);
         Due.is("14: is written so", x.read(Due.LOADS, 1), 2000000);
         x = bargeIn(0);
-        load(x, 0, -2000000);
+        Due.load(x, 0, -2000000);
         Due.is("14: the lowest load", x.pass(0), -2000000);
         Due.is("14: is written so", x.read(Due.LOADS, 1), -2000000);
     }
@@ -403,39 +387,39 @@ public final class ActsTest {
         Due.fault("14: GATES line c", x, 1, x.pass(0), -200003);
         x.keep(Due.GATES, 1);
         Due.is("14: shut, ahead of SIGNS", x.pass(0), -2);
-        fill(x, Due.GATES, 1);
+        Due.fill(x, Due.GATES, 1);
         Due.fault("14: SIGNS are MISSING", x, 2, x.pass(0), -100000);
         x.keep(Due.SIGNS, 0);
         Due.fault("14: SIGNS line c", x, 3, x.pass(0), -200000);
         x.keep(Due.SIGNS, 1);
         Due.is("14: no barge, ahead of line c + 1", x.pass(0), -3);
-        fill(x, Due.SIGNS, 77);
+        Due.fill(x, Due.SIGNS, 77);
         Due.fault("14: SIGNS line c + 1", x, 4, x.pass(0), -200000);
-        fill(x, Due.SIGNS, 77, 8);
+        Due.fill(x, Due.SIGNS, 77, 8);
         Due.is("14: full, ahead of LOADS", x.pass(0), -4);
-        fill(x, Due.SIGNS, 77, 0);
+        Due.fill(x, Due.SIGNS, 77, 0);
         x.keep(Due.TOLLS, 2);
         Due.fault("14: LOADS are MISSING", x, 5, x.pass(0), -100002);
         x.keep(Due.LOADS, 0);
         Due.fault("14: LOADS line c", x, 6, x.pass(0), -200002);
-        fill(x, Due.LOADS, 40);
+        Due.fill(x, Due.LOADS, 40);
         Due.fault("14: LOADS line c + 1", x, 7, x.pass(0), -200002);
         Due.book("14: the load stays", x, Due.LOADS, 40);
         Due.book("14: the signs stay", x, Due.SIGNS, 77, 0);
         Due.book("14: the tolls stay", x, Due.TOLLS, 0, 0);
-        fill(x, Due.LOADS, 40, 0);
+        Due.fill(x, Due.LOADS, 40, 0);
         x.lose(Due.TOLLS);
         Due.fault("14: TOLLS are MISSING", x, 8, x.pass(0), -100004);
         Due.book("14: LOADS ahead of TOLLS", x, Due.LOADS, 40, 40);
         Due.book("14: SIGNS ahead of TOLLS", x, Due.SIGNS, 77, 77);
-        fill(x, Due.SIGNS, 78, 0);
-        fill(x, Due.LOADS, 41, 0);
+        Due.fill(x, Due.SIGNS, 78, 0);
+        Due.fill(x, Due.LOADS, 41, 0);
         x.keep(Due.TOLLS, 1);
         Due.fault("14: TOLLS line c + 1", x, 9, x.pass(0), -200004);
         Due.book("14: LOADS ahead of TOLLS", x, Due.LOADS, 41, 41);
         Due.book("14: SIGNS ahead of TOLLS", x, Due.SIGNS, 78, 78);
         Due.book("14: TOLLS stay", x, Due.TOLLS, 0);
-        fill(x, Due.SIGNS, 78, 0);
+        Due.fill(x, Due.SIGNS, 78, 0);
         x.keep(Due.TOLLS, 2);
         Due.is("14: as many lines as are enough", x.pass(0), 41);
         Due.is("14: none is OUT", x.look(1), 0);
@@ -444,20 +428,20 @@ public final class ActsTest {
     private static void promise14PassOutFaults() {
         FlightBooks x = new FlightBooks(2);
         Due.fault("14: GATES are MISSING", x, 0, x.pass(1), -100003);
-        fill(x, Due.GATES, 1);
+        Due.fill(x, Due.GATES, 1);
         Due.fault("14: GATES line c", x, 1, x.pass(1), -200003);
-        fill(x, Due.GATES, 0, 1);
+        Due.fill(x, Due.GATES, 0, 1);
         Due.fault("14: SIGNS are MISSING", x, 2, x.pass(1), -100000);
-        fill(x, Due.SIGNS, 7);
+        Due.fill(x, Due.SIGNS, 7);
         Due.fault("14: SIGNS line c", x, 3, x.pass(1), -200000);
-        fill(x, Due.SIGNS, 0, 7);
+        Due.fill(x, Due.SIGNS, 0, 7);
         Due.fault("14: LOADS are MISSING", x, 4, x.pass(1), -100002);
         x.keep(Due.LOADS, 1);
         Due.fault("14: LOADS line c", x, 5, x.pass(1), -200002);
         Due.book("14: the sign stays", x, Due.SIGNS, 0, 7);
         Due.is("14: not OUT", x.look(1), 0);
         Due.is("14: not OUT", x.look(2), 0);
-        fill(x, Due.LOADS, 0, 12);
+        Due.fill(x, Due.LOADS, 0, 12);
         Due.is("14: out", x.pass(1), 12);
         Due.is("14: OUT", x.look(1), 1);
     }
@@ -467,7 +451,7 @@ public final class ActsTest {
         for (int eighths : loads) {
             for (int c = 1; c <= 2; c++) {
                 FlightBooks x = bargeIn(c);
-                load(x, c, eighths);
+                Due.load(x, c, eighths);
                 Due.is("14: load " + eighths, x.pass(c), eighths);
                 Due.book("14: it went", x, Due.SIGNS, 0, 0, c == 1 ? 77 : 0);
                 Due.book("14: it went", x, Due.LOADS, 0, 0, c == 1 ? eighths : 0);

@@ -40,12 +40,51 @@ final class Due {
         is(what + ": look(4)", x.look(4), want);
     }
 
+    /** That a call was REFUSED, which is no FAULT; of an object that had none before. */
+    static void refused(String what, FlightBooks x, int got) {
+        is(what, got, REFUSED);
+        is(what + ": look(3)", x.look(3), 0);
+        is(what + ": look(4)", x.look(4), 0);
+    }
+
+    /** That a call answered a number like that of a FAULT or of REFUSED, and was not counted. */
+    static void likeAFault(String what, FlightBooks x, int got, int want) {
+        is(what, got, want);
+        is(what + ": look(3)", x.look(3), 0);
+        is(what + ": look(4)", x.look(4), 0);
+    }
+
+    /** A book gets as many lines as there are numbers, and these numbers. */
+    static void fill(FlightBooks x, int book, int... values) {
+        x.keep(book, values.length);
+        for (int line = 0; line < values.length; line++) {
+            x.write(book, line, values[line]);
+        }
+    }
+
+    /** A line of LOADS gets a load that may be beyond what one call may tell. */
+    static void load(FlightBooks x, int line, int eighths) {
+        int step = eighths < 0 ? -16000 : 16000;
+        x.write(LOADS, line, eighths % 16000);
+        for (int i = 0; i < eighths / step; i++) {
+            x.change(LOADS, line, 0, step);
+        }
+    }
+
     static FlightBooks withBooks(int chambers, int lines) {
         FlightBooks x = new FlightBooks(chambers);
         for (int book = SIGNS; book <= TOLLS; book++) {
             x.keep(book, lines);
         }
         return x;
+    }
+
+    static int asked() {
+        return asked;
+    }
+
+    static int wrong() {
+        return wrong;
     }
 
     static void end() {
