@@ -393,6 +393,19 @@ public final class ActsEdgesTest {
         }
     }
 
+    @Says(promise = 13, value = "Then LOADS line 0 is WRITTEN, SIGNS line 0 is WRITTEN, "
+        + "TOLLS line 0 is CHANGED: more by 1: what that is then.")
+    static void p13EnterOverAnEarlierLoadAndToll() {
+        FlightBooks x = atLevel(10);
+        Due.fill(x, Due.LOADS, -16000, 6);
+        Due.fill(x, Due.TOLLS, -1, 6);
+        Due.is("the toll is 0 then", x.enter(5, 0), 0);
+        Due.book("the load is another, 0 too", x, Due.LOADS, 0, 6);
+        Due.book("the sign", x, Due.SIGNS, 5, 0);
+        Due.book("the toll", x, Due.TOLLS, 0, 6);
+        Due.book("the level stays", x, Due.LEVELS, 10, 0);
+    }
+
     @Says(promise = 13, value = "TOLLS line 0 is CHANGED: more by 1: what that is then.")
     static void p13EnterTollBeyondItsEnd() {
         FlightBooks x = atLevel(10);

@@ -2,6 +2,15 @@
 public final class ChartEdgesTest {
     private static final int LOWEST = Integer.MIN_VALUE;
     private static final int HIGHEST = Integer.MAX_VALUE;
+    private static final int[][] ABOVE_24 = {
+        {25, 0}, {0, 25}, {25, 24}, {24, 25}, {25, 25}, {HIGHEST, 1}, {1, HIGHEST}
+    };
+    private static final int[][] BELOW_0 = {
+        {-1, 0}, {0, -1}, {-1, 24}, {24, -1}, {-1, -1}, {LOWEST, 1}, {1, LOWEST}
+    };
+    private static final int[][] ONE_ABOVE_24_ONE_BELOW_0 = {
+        {25, -1}, {-1, 25}, {HIGHEST, LOWEST}, {LOWEST, HIGHEST}
+    };
 
     private ChartEdgesTest() {
     }
@@ -97,44 +106,64 @@ public final class ChartEdgesTest {
         }
     }
 
-    @Says(promise = 15, value = "-2: one of them is above 24 (asked ahead);")
-    static void p15SurveyAbove24() {
-        int[][] charts = {{25, 0}, {0, 25}, {25, 24}, {24, 25}, {25, 25}, {HIGHEST, 1}, {1, HIGHEST}};
+    private static void surveyed(int[][] charts, int want) {
         for (int[] chart : charts) {
-            chartStays(chart[0], chart[1], -2);
+            FlightBooks x = new FlightBooks(1);
+            Due.is("survey(" + chart[0] + ", " + chart[1] + ")", x.survey(chart[0], chart[1]), want);
+            Due.is("no FAULT", x.look(3), 0);
         }
     }
 
-    @Says(promise = 15, value = "-3: one of them is below 0.")
-    static void p15SurveyBelow0() {
-        int[][] charts = {{-1, 0}, {0, -1}, {-1, 24}, {24, -1}, {-1, -1}, {LOWEST, 1}, {1, LOWEST}};
-        for (int[] chart : charts) {
-            chartStays(chart[0], chart[1], -3);
-        }
+    @Says(promise = 15, value = "-2: one of them is above 24 (asked ahead);")
+    static void p15SurveyAbove24() {
+        surveyed(ABOVE_24, -2);
     }
 
     @Says(promise = 15, value = "-2: one of them is above 24 (asked ahead);")
     static void p15SurveyAbove24IsAskedAhead() {
-        int[][] charts = {{25, -1}, {-1, 25}, {HIGHEST, LOWEST}, {LOWEST, HIGHEST}};
-        for (int[] chart : charts) {
-            chartStays(chart[0], chart[1], -2);
+        surveyed(ONE_ABOVE_24_ONE_BELOW_0, -2);
+    }
+
+    @Says(promise = 15, value = "-3: one of them is below 0.")
+    static void p15SurveyBelow0() {
+        surveyed(BELOW_0, -3);
+    }
+
+    @Says(promise = 15, value = "(The CHART stays as it was then.)")
+    static void p15SurveyMissingChartStays() {
+        for (int[][] charts : new int[][][] {ABOVE_24, BELOW_0, ONE_ABOVE_24_ONE_BELOW_0}) {
+            for (int[] chart : charts) {
+                FlightBooks x = new FlightBooks(1);
+                x.survey(chart[0], chart[1]);
+                Due.is("it is MISSING", x.chart(0, 0), -100005);
+            }
         }
     }
 
-    /** "(The CHART stays as it was then.)" */
-    private static void chartStays(int rows, int columns, int want) {
-        String what = "survey(" + rows + ", " + columns + ")";
-        FlightBooks x = new FlightBooks(1);
-        Due.is(what + " of a MISSING one", x.survey(rows, columns), want);
-        Due.is("no FAULT", x.look(3), 0);
-        Due.is("it is MISSING", x.columns(0), -100005);
-        x = new FlightBooks(1);
-        x.survey(0, 0);
-        Due.is(what + " of one without rows", x.survey(rows, columns), want);
-        Due.is("it has none", x.columns(0), -200005);
-        x = charted(2, 3);
-        Due.is(what + " of one with rows", x.survey(rows, columns), want);
-        isCharted("it stays", x, 2, 3);
+    @Says(promise = 15, value = "(The CHART stays as it was then.)")
+    static void p15SurveyChartWithoutPlacesStays() {
+        for (int[][] charts : new int[][][] {ABOVE_24, BELOW_0, ONE_ABOVE_24_ONE_BELOW_0}) {
+            for (int[] chart : charts) {
+                FlightBooks x = new FlightBooks(1);
+                x.survey(0, 0);
+                x.survey(chart[0], chart[1]);
+                Due.is("it has no row", x.columns(0), -200005);
+                x.survey(1, 0);
+                x.survey(chart[0], chart[1]);
+                Due.is("it has no column", x.columns(0), 0);
+            }
+        }
+    }
+
+    @Says(promise = 15, value = "(The CHART stays as it was then.)")
+    static void p15SurveyChartWithPlacesStays() {
+        for (int[][] charts : new int[][][] {ABOVE_24, BELOW_0, ONE_ABOVE_24_ONE_BELOW_0}) {
+            for (int[] chart : charts) {
+                FlightBooks x = charted(2, 3);
+                x.survey(chart[0], chart[1]);
+                isCharted("it stays", x, 2, 3);
+            }
+        }
     }
 
     // ---- 16: note
