@@ -1,3 +1,5 @@
+import java.io.IOException;
+
 /** Promises 10 to 14: a test for each of their sentences that names a boundary. */
 public final class ActsEdgesTest {
     private static final int LOWEST = Integer.MIN_VALUE;
@@ -7,7 +9,7 @@ public final class ActsEdgesTest {
     private ActsEdgesTest() {
     }
 
-    public static void main(String[] args) throws IllegalAccessException {
+    public static void main(String[] args) throws IllegalAccessException, IOException {
         Sentences.run(ActsEdgesTest.class);
     }
 

@@ -1,3 +1,5 @@
+import java.io.IOException;
+
 /** Promises 1 to 9: a test for each of their sentences that names a boundary. */
 public final class BooksEdgesTest {
     private static final int LOWEST = Integer.MIN_VALUE;
@@ -7,7 +9,7 @@ public final class BooksEdgesTest {
     private BooksEdgesTest() {
     }
 
-    public static void main(String[] args) throws IllegalAccessException {
+    public static void main(String[] args) throws IllegalAccessException, IOException {
         Sentences.run(BooksEdgesTest.class);
     }
 

@@ -1,3 +1,5 @@
+import java.io.IOException;
+
 /** Promises 15 to 18: a test for each of their sentences that names a boundary. */
 public final class ChartEdgesTest {
     private static final int LOWEST = Integer.MIN_VALUE;
@@ -15,7 +17,7 @@ public final class ChartEdgesTest {
     private ChartEdgesTest() {
     }
 
-    public static void main(String[] args) throws IllegalAccessException {
+    public static void main(String[] args) throws IllegalAccessException, IOException {
         Sentences.run(ChartEdgesTest.class);
     }
 

@@ -1,9 +1,11 @@
+import java.io.IOException;
+
 /** Promise 19: a test for each part of its sentence that names a boundary. */
 public final class LookEdgesTest {
     private LookEdgesTest() {
     }
 
-    public static void main(String[] args) throws IllegalAccessException {
+    public static void main(String[] args) throws IllegalAccessException, IOException {
         Sentences.run(LookEdgesTest.class);
     }
 

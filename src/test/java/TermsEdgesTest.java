@@ -1,3 +1,5 @@
+import java.io.IOException;
+
 /** The section "Terms": a test for each of its sentences that names a boundary. */
 public final class TermsEdgesTest {
     private static final int LOWEST = Integer.MIN_VALUE;
@@ -6,7 +8,7 @@ public final class TermsEdgesTest {
     private TermsEdgesTest() {
     }
 
-    public static void main(String[] args) throws IllegalAccessException {
+    public static void main(String[] args) throws IllegalAccessException, IOException {
         Sentences.run(TermsEdgesTest.class);
     }
 
